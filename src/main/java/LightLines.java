@@ -953,10 +953,11 @@ public final class LightLines {
 
     /** The tape, how it is read, and what the cues read from it tell. */
     private static final class Cues {
-        private static final int MOST_BYTES = 300, MOST_CUES = 12, MOST_LETTERS = 6, MOST_FIGURES = 4;
+        private static final int MOST_BYTES = 300, MOST_CUES = 12;
+        private static final int MOST_LETTERS = 6, MOST_FIGURES = 4, MOST_NUMBER = 9999;
         private static final int FULL_LEVEL = 100, SHOWN_ALL = -1, SHOWN_NOTHING = -2;
         private static final int CANNOT_STAND = 1, WRONG_NUMBER = 2, ONE_TOO_MANY = 3;
-        private static final int END = 0, NAME = 1, NUMBER = 2, SIGN = 3, NO_TOKEN = 4;
+        private static final int END = 0, NAME = 1, NUMBER = 2, SIGN = 3, NO_TOKEN = 4, BLANK = 5;
         private static final int SHOW = 0, DARK = 1, FADE = 2;
         /** The places of a cue's row. */
         private static final int FRAME = 0, WORD = 1, FIRST = 2, SECOND = 3;
@@ -971,7 +972,6 @@ public final class LightLines {
         private int token;
         private int tokenStart;
         private int tokenEnd;
-        private int tokenValue;
 
         boolean takeBytes(long w, int n) {
             if (n > MOST_BYTES - length) {
@@ -1015,24 +1015,18 @@ public final class LightLines {
             }
             int[] cue = readCues[read];
             nextToken();
-            if (token != NUMBER) {
-                return CANNOT_STAND;
+            int fault = readNumber(cue, FRAME, read == 0 ? 0 : readCues[read - 1][FRAME], MOST_NUMBER);
+            if (fault == 0) {
+                fault = readDeed(cue);
             }
-            if (read > 0 && tokenValue < readCues[read - 1][FRAME]) {
-                return WRONG_NUMBER;
+            if (fault == 0 && token != SIGN) {
+                fault = CANNOT_STAND;
             }
-            cue[FRAME] = tokenValue;
-            nextToken();
-            int fault = readDeed(cue);
-            if (fault != 0) {
-                return fault;
+            if (fault == 0) {
+                read++;
+                nextToken();
             }
-            if (token != SIGN) {
-                return CANNOT_STAND;
-            }
-            read++;
-            nextToken();
-            return 0;
+            return fault;
         }
 
         private int readDeed(int[] cue) {
@@ -1044,62 +1038,67 @@ public final class LightLines {
             if (isWord("show")) {
                 cue[WORD] = SHOW;
                 nextToken();
-                return readNumber(cue, FIRST, Integer.MAX_VALUE);
+                return readNumber(cue, FIRST, 0, MOST_NUMBER);
             }
             if (isWord("fade")) {
                 cue[WORD] = FADE;
                 nextToken();
-                int fault = readNumber(cue, FIRST, FULL_LEVEL);
-                return fault != 0 ? fault : readNumber(cue, SECOND, Integer.MAX_VALUE);
+                int fault = readNumber(cue, FIRST, 0, FULL_LEVEL);
+                return fault != 0 ? fault : readNumber(cue, SECOND, 0, MOST_NUMBER);
             }
             return CANNOT_STAND;
         }
 
-        private int readNumber(int[] cue, int place, int most) {
+        private int readNumber(int[] cue, int place, int least, int most) {
             if (token != NUMBER) {
                 return CANNOT_STAND;
             }
-            if (tokenValue > most) {
+            int number = numberOfToken();
+            if (!isWithin(number, least, most)) {
                 return WRONG_NUMBER;
             }
-            cue[place] = tokenValue;
+            cue[place] = number;
             nextToken();
             return 0;
         }
 
+        /** A run ends only where its sort ends: one that is too long is no token as a whole. */
         private void nextToken() {
             int at = tokenEnd;
-            while (at < length && (tape[at] == 32 || tape[at] == 10)) {
+            while (at < length && sortOf(tape[at]) == BLANK) {
                 at++;
             }
             tokenStart = at;
-            tokenEnd = at;
-            if (at >= length) {
-                token = END;
-            } else if (isLetter(tape[at])) {
-                takeName();
-            } else if (isFigure(tape[at])) {
-                takeNumber();
-            } else {
-                token = tape[at] == ';' ? SIGN : NO_TOKEN;
-                tokenEnd = at + 1;
+            token = at < length ? sortOf(tape[at]) : END;
+            tokenEnd = at < length ? at + 1 : at;
+            if (token == NAME || token == NUMBER) {
+                while (tokenEnd < length && sortOf(tape[tokenEnd]) == token) {
+                    tokenEnd++;
+                }
+                int most = token == NAME ? MOST_LETTERS : MOST_FIGURES;
+                token = tokenEnd - tokenStart > most ? NO_TOKEN : token;
             }
         }
 
-        private void takeName() {
-            while (tokenEnd < length && isLetter(tape[tokenEnd])) {
-                tokenEnd++;
+        private static int sortOf(byte b) {
+            if (b == 32 || b == 10) {
+                return BLANK;
             }
-            token = tokenEnd - tokenStart <= MOST_LETTERS ? NAME : NO_TOKEN;
+            if (b >= 'a' && b <= 'z') {
+                return NAME;
+            }
+            if (b >= '0' && b <= '9') {
+                return NUMBER;
+            }
+            return b == ';' ? SIGN : NO_TOKEN;
         }
 
-        private void takeNumber() {
-            tokenValue = 0;
-            while (tokenEnd < length && isFigure(tape[tokenEnd])) {
-                tokenValue = 10 * tokenValue + tape[tokenEnd] - '0';
-                tokenEnd++;
+        private int numberOfToken() {
+            int number = 0;
+            for (int i = tokenStart; i < tokenEnd && i < tape.length; i++) {
+                number = 10 * number + tape[i] - '0';
             }
-            token = tokenEnd - tokenStart <= MOST_FIGURES ? NUMBER : NO_TOKEN;
+            return number;
         }
 
         private boolean isWord(String word) {
@@ -1112,14 +1111,6 @@ public final class LightLines {
                 }
             }
             return true;
-        }
-
-        private static boolean isLetter(byte b) {
-            return b >= 'a' && b <= 'z';
-        }
-
-        private static boolean isFigure(byte b) {
-            return b >= '0' && b <= '9';
         }
 
         int shownAt(int frame) {

@@ -116,5 +116,8 @@ public final class AsksTest {
         x.cues();
         Check.due("the tape is empty", x.count(6), 0);
         Check.due("the cues stay", x.count(5), 3);
+        LightLines alone = new LightLines();
+        Check.draw(alone, 1, 1, 1, 2, 1, 1);
+        Check.due("the first one is a loop", alone.count(3), 1);
     }
 }

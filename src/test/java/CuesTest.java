@@ -75,6 +75,13 @@ public final class CuesTest {
         faulty("at 1 ;", 5, 1);
         faulty("at 1 dar;", 5, 1);
         faulty("at 1 darks;", 5, 1);
+        faulty("at 1 darkz;", 5, 1);
+        faulty("at 1 bark;", 5, 1);
+        faulty("it 1 dark;", 0, 1);
+        faulty("at 1 dark{", 9, 1);
+        faulty("at 1 `dark;", 5, 1);
+        faulty("at 1: dark;", 4, 1);
+        faulty("at /1 dark;", 3, 1);
         faulty("at 1 dark 2;", 10, 1);
         faulty("at 1 dark at", 10, 1);
         faulty("at 1 dark", 9, 1);
@@ -175,6 +182,7 @@ public final class CuesTest {
 
     private static void fades() {
         levelsAre("", 0, 100, 100);
+        levelsAre("at 0 fade 30 3;", 0, 100, 77, 54, 30);
         levelsAre("at 2 fade 40 0;", 0, 100, 100, 40, 40);
         levelsAre("at 2 fade 40 1;", 0, 100, 100, 100, 40, 40);
         // 90 k by 7, cut: 12, 25, 38, 51, 64, 77.

@@ -121,6 +121,11 @@ public final class StrokesTest {
         Check.due("a stroke more ends the plan", x.order(0, 0), 0);
         Check.due("it is last", x.order(2, 0), 2);
         Check.due("the plan has too few now", x.plan(1, 0), Check.PLACE);
+        Check.fill(x, 1, 0, 0, 1, 0, 0, 0);
+        Check.due("0 comes again behind 1", x.plan(1, 0), Check.BAD);
+        Check.fill(x, 1, 2, 0, 1, 0, 0, 1);
+        // 0,0 - 0,700 is 700; - 10,20 is 680; - 300,50 is 290; 100,0 - 0,0 is 100.
+        Check.due("three", x.plan(1, 0), 1770);
     }
 
     private static void best() {

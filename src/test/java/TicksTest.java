@@ -160,6 +160,7 @@ public final class TicksTest {
             Check.due("all " + what, x.all(what), Check.FULL);
         }
         Check.due("all 6", x.all(6), Check.BAD);
+        Check.due("all -1", x.all(-1), Check.BAD);
         Check.due("burn", x.burn(0, 0), Check.FULL);
         Check.due("burn of no cell", x.burn(0, 11), Check.BAD);
         x.rule(1, 1);
@@ -271,6 +272,7 @@ public final class TicksTest {
     private static void burns() {
         LightLines x = new LightLines();
         Check.due("cell -1", x.burn(-1, 0), Check.BAD);
+        Check.due("cell -1 of y", x.burn(0, -1), Check.BAD);
         Check.due("cell 11", x.burn(0, 11), Check.BAD);
         Check.due("cell 11 of x", x.burn(11, 0), Check.BAD);
         Check.due("nothing burns", x.burn(10, 10), 0);
