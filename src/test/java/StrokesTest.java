@@ -35,6 +35,8 @@ public final class StrokesTest {
         Check.due("from 1 on", x.stroke(0, 1, 1), 1);
         Check.due("x of it", x.point(1, 0, 0), 2);
         Check.due("y of it", x.point(1, 0, 1), 1000);
+        Check.fill(x, 1, -1, 5, 6, 1001);
+        Check.due("items beside its own do not count", x.stroke(1, 1, 1), 2);
         Check.due("the sheet may go", x.drop(0), 8);
         Check.due("what it told stays", x.point(0, 1, 0), 1000);
         bytesAndShorts();

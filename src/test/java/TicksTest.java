@@ -173,6 +173,10 @@ public final class TicksTest {
         Check.draw(most, 0, 0);
         Check.due("2000", most.ticks(), 2000);
         Check.due("the last one", most.tick(1999, 2), 1);
+        most.rule(2, 16);
+        most.rule(3, 16);
+        Check.due("the mirrors at the last one", most.tick(1999, 3), 0);
+        Check.due("lit in all", most.all(1), 1001);
         Check.due("none behind it", most.tick(2000, 2), Check.NONE);
         Check.draw(most, 0, 0);
         Check.due("one more", most.ticks(), Check.FULL);
