@@ -1,8 +1,16 @@
+import java.io.IOException;
+import java.nio.file.Files;
+import java.nio.file.Path;
+
 /** What the tests share: counts answers that are not as due, and builds objects in short. */
 final class Check {
     static final int NONE = -1000000, BAD = -1000001, STATE = -1000002, FULL = -1000003;
     static final int NULL = -1000011, PLACE = -1000012, KIND = -1000013, SIZE = -1000014, STORE = -1000015;
 
+    private static final Path DOCUMENT = Path.of("../shared/DOC.md");
+
+    private static String document;
+    private static String sentence = "";
     private static int wrong;
     private static int asked;
 
@@ -13,8 +21,30 @@ final class Check {
         asked++;
         if (got != want) {
             wrong++;
-            System.out.println(call + " answered " + got + ", due is " + want);
+            System.out.println(sentence + call + " answered " + got + ", due is " + want);
         }
+    }
+
+    /**
+     * The document's words that the next answers are about. Words that the document no longer has are told, but
+     * are no wrong answer: whoever reads that shall read the document's new words and the test again.
+     */
+    static void says(String words) {
+        sentence = "'" + words + "': ";
+        if (!documentText().isEmpty() && !documentText().contains(words)) {
+            System.out.println("note: the document does not say " + sentence);
+        }
+    }
+
+    private static String documentText() {
+        if (document == null) {
+            try {
+                document = Files.readString(DOCUMENT).replaceAll("\\s+", " ");
+            } catch (IOException unread) {
+                document = "";
+            }
+        }
+        return document;
     }
 
     static void end() {
@@ -48,5 +78,11 @@ final class Check {
             }
             x.feed(w, n);
         }
+    }
+
+    /** What cues() answers to the text alone. */
+    static int read(LightLines x, String text) {
+        tell(x, text);
+        return x.cues();
     }
 }
