@@ -69,7 +69,8 @@ public final class EdgesOfAsksTest {
         Check.due("it is asked as LOOP still", x.ask(0, 0), 6);
         Check.due("taken as STROKE", x.as(0, 0), 3);
         Check.due("nor by what is lent", x.ask(0, 0), 6);
-        Check.says("(Of an ask the BODY told for the KIND begins, else that of the nearest KIND that it is, too, else the one that is lent;");
+        Check.says("(Of an ask the BODY told for the KIND begins, else that of the nearest KIND that it is, too, "
+            + "else the one that is lent;");
         Check.due("no MARK of LOOPS: that of LINES", x.ask(0, 1) + x.trace(0), 8 + 21);
         Check.due("SIZE of LOOPS", x.ask(0, 0) + x.trace(0), 6 + 12);
     }

@@ -126,6 +126,10 @@ public final class EdgesOfCuesTest {
         faulty("aT 1 dark;", 0, 1);
         faulty("at 1 darK;", 5, 1);
         faulty("at 1 d", 5, 1);
+        faulty("at 1 darka;", 5, 1);
+        faulty("at 1 darkz;", 5, 1);
+        faulty("at 1 adark;", 5, 1);
+        faulty("at 1 zdark;", 5, 1);
         faulty("at 1 " + (char) ('d' + 128) + "ark;", 5, 1);
     }
 
@@ -361,6 +365,22 @@ public final class EdgesOfCuesTest {
         Check.due("ends them all", x.frame(3, 0), -1);
         Check.due("and the fade", x.frame(3, 1), 100);
         Check.due("none are left", x.count(5), 0);
+        nothingIsLeftOfEarlierCues();
+    }
+
+    private static void nothingIsLeftOfEarlierCues() {
+        LightLines x = new LightLines();
+        Check.read(x, "at 1 dark; at 1 fade 50 0; at 1 dark; at 1 fade 20 0;");
+        Check.read(x, "at 1 fade 40 9; at 1 dark; at 1 fade 30 9; at 1 dark;");
+        Check.due("fewer, of other words", Check.read(x, "at 1 show 6; at 1 show 7;"), 2);
+        Check.due("the last one of these", x.frame(1, 0), 7);
+        Check.due("no fade of those", x.frame(9, 1), 100);
+        Check.due("fewer still", Check.read(x, "at 1 fade 10 0;"), 1);
+        Check.due("no word of those", x.frame(1, 0), -1);
+        Check.due("this fade", x.frame(1, 1), 10);
+        Check.due("the most of them", Check.read(x, "at 2 fade 5 0;".repeat(12)), 12);
+        Check.due("behind them all", x.frame(20000, 1), 5);
+        Check.due("none is shown by them", x.frame(20000, 0), -1);
     }
 
     private static void faultsLeaveTheRest() {
@@ -501,7 +521,8 @@ public final class EdgesOfCuesTest {
         Check.says("At a frame (0 to 20000)");
         LightLines x = new LightLines();
         Check.read(x, "at 9999 fade 0 9999;");
-        int[][] due = {{0, 100}, {9998, 100}, {9999, 100}, {10098, 100}, {10099, 99}, {19898, 2}, {19899, 1}, {19997, 1}, {19998, 0}, {20000, 0}};
+        int[][] due = {{0, 100}, {9998, 100}, {9999, 100}, {10098, 100}, {10099, 99}, {19898, 2}, {19899, 1}, {19997, 1}, {19998, 0},
+            {20000, 0}};
         // -100 k by 9999, cut: k 99 is 0, k 100 is -1; k 9899 is -98, k 9900 and 9998 are -99.
         for (int[] d : due) {
             Check.due("LEVEL at " + d[0], x.frame(d[0], 1), d[1]);

@@ -14,6 +14,7 @@ public final class EdgesOfStrokesTest {
         leastAndGreatestDarkWay();
         bestOfSeveral();
         bestOfMany();
+        bestOfBothAxes();
         bestRefused();
         planIsOfAll();
         planFromIOn();
@@ -271,6 +272,21 @@ public final class EdgesOfStrokesTest {
         // and 700. Downwards from 7 on it is as much, but 0 is less than 7.
         Check.due("eight up", up.best(), 800);
         planIs(up, 0, 1, 1, 1, 2, 1, 3, 1, 4, 1, 5, 1, 6, 1, 7, 0);
+    }
+
+    /** The same drawing with x and y in each other's place has the same plan. */
+    private static void bestOfBothAxes() {
+        Check.says("BEST: a PLAN of the least DARK WAY");
+        for (int axis = 0; axis < 2; axis++) {
+            LightLines x = new LightLines();
+            int[][] ends = {{900, 300}, {600, 1000}, {0, 500}};
+            for (int[] e : ends) {
+                Check.draw(x, axis == 0 ? e[0] : 7, axis == 0 ? 7 : e[0], axis == 0 ? e[1] : 7, axis == 0 ? 7 : e[1]);
+            }
+            // All back: 300, from 900 to 1000, from 600 to 500, and 7. All forward from 2 on it is as much, but 0 is less.
+            Check.due("dark way, axis " + axis, x.best(), 507);
+            planIs(x, 0, 1, 1, 1, 2, 1);
+        }
     }
 
     private static void bestRefused() {

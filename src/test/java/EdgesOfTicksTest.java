@@ -147,8 +147,8 @@ public final class EdgesOfTicksTest {
     }
 
     private static void manyPoints() {
-        Check.says("then its POINTS: one tick at the first, LIT; to the next one a move, LIT; at each POINT but the first and the last of it "
-            + "HOLDS, LIT; WAIT ticks at the last POINT, dark.");
+        Check.says("then its POINTS: one tick at the first, LIT; to the next one a move, LIT; at each POINT but the first and the "
+            + "last of it HOLDS, LIT; WAIT ticks at the last POINT, dark.");
         LightLines x = exact(1, 1);
         Check.draw(x, 0, 0, 1, 0, 2, 0, 2, 1, 2, 0, 1, 0, 1, 0, 0, 0);
         // Straight on; a corner; straight back; a corner; then no way to the seventh point, and from it straight on.
@@ -310,6 +310,14 @@ public final class EdgesOfTicksTest {
         x.rule(0, 2);
         Check.due("500, 1, 500, 1, 1", x.ticks(), 1003);
         Check.due("all again", x.all(0), 503);
+        LightLines up = exact(1, 5);
+        Check.draw(up, 900, 1000);
+        Check.due("1000, 5, 1, 5, 1000", up.ticks(), Check.FULL);
+        up.rule(0, 250);
+        up.rule(1, 0);
+        Check.due("4, 1, 4", up.ticks(), 9);
+        Check.due("from 0, 0 again", up.tick(0, 0), 225);
+        Check.due("y likewise", up.tick(0, 1), 250);
     }
 
     private static void fullByThePlan() {
@@ -662,6 +670,9 @@ public final class EdgesOfTicksTest {
         Check.due("SHUT it has LAG as well", x.tick(1, 7), 15);
         x.rule(4, 5);
         Check.due("and where light comes late", x.all(3), 15);
+        x.rule(2, 16);
+        x.rule(3, 16);
+        Check.due("none by other rules", x.all(3), 0);
         LightLines y = new LightLines();
         y.rule(2, 1);
         y.rule(3, 0);
