@@ -29,7 +29,7 @@ final class Twins {
         }
     }
 
-    /** All that an object can be asked for, within its 512 calls; what ends something comes last. */
+    /** Questions about every part of an object, few enough for its 512 calls; what ends something comes last. */
     private static List<Integer> answers(LightLines x) {
         List<Integer> all = new ArrayList<>();
         askWhatStands(x, all);
