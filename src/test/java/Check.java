@@ -1,6 +1,7 @@
 import java.io.IOException;
 import java.nio.file.Files;
 import java.nio.file.Path;
+import java.util.Arrays;
 
 /** What the tests share: counts answers that are not as due, and builds objects in short. */
 final class Check {
@@ -52,6 +53,17 @@ final class Check {
             System.out.println("nothing was asked");
         }
         System.exit(wrong == 0 && asked > 0 ? 0 : 1);
+    }
+
+    /** A call by its name: the class, and the second way to work it out, have no type in common. */
+    static int call(Object of, String name, int... a) {
+        Class<?>[] ints = new Class<?>[a.length];
+        Arrays.fill(ints, int.class);
+        try {
+            return (Integer) of.getClass().getDeclaredMethod(name, ints).invoke(of, Arrays.stream(a).boxed().toArray());
+        } catch (ReflectiveOperationException e) {
+            throw new IllegalStateException(name, e);
+        }
     }
 
     /** A sheet of ints with these items. */

@@ -18,7 +18,8 @@ public final class CuesModelTest {
         CuesModelTest test = new CuesModelTest();
         for (int round = 0; round < 4000; round++) {
             test.tryText(test.someText());
-            if (round % 40 == 39) {
+            // A text takes 38 calls to tell and 64 to ask at most: five of them stay within an object's 512 calls.
+            if (round % 5 == 4) {
                 test.x = new LightLines();
                 test.cues = new ArrayList<>();
                 test.fault = 0;

@@ -8,8 +8,15 @@ public final class TicksModelTest {
     private static final int[] LEAST = {1, 0, 1, 0, 0, 1};
     private static final int[] MOST = {1000, 5, 16, 16, 5, 1000};
 
+    private static final int QUESTIONS = 250;
+
     private final Random random;
+    /** Is changed and asked in turn, so that it has to work out anew what a change touches. */
     private final LightLines x = new LightLines();
+    /** Is made again after so many questions, by all changes so far: 12 of 18 calls at most, so no object has over 512. */
+    private LightLines asked = x;
+    private int questions;
+    private final List<Twins.Call> changes = new ArrayList<>();
     private final List<List<long[]>> strokes = new ArrayList<>();
     private final List<int[]> plan = new ArrayList<>();
     private final int[] rules = {50, 1, 8, 10, 0, 40};
@@ -43,6 +50,7 @@ public final class TicksModelTest {
             tellPlan();
         } else if (which == 3 && !strokes.isEmpty()) {
             x.best();
+            changes.add(LightLines::best);
             plan.clear();
             for (int i = 0; i < strokes.size(); i++) {
                 plan.add(new int[] {x.order(i, 0), x.order(i, 1)});
@@ -52,6 +60,8 @@ public final class TicksModelTest {
             int v = LEAST[what] + random.nextInt(MOST[what] - LEAST[what] + 1);
             v = what == 5 ? 1 + random.nextInt(10) : what == 0 && random.nextBoolean() ? 1 + random.nextInt(60) : v;
             Check.due("rule", x.rule(what, v), rules[what]);
+            int told = v;
+            changes.add(again -> again.rule(what, told));
             rules[what] = v;
         } else {
             changeZone(random.nextInt(4));
@@ -69,6 +79,7 @@ public final class TicksModelTest {
             points.add(new long[] {flat[2 * i], flat[2 * i + 1]});
         }
         Check.due("stroke", Check.draw(x, flat), strokes.size());
+        changes.add(again -> Check.draw(again, flat));
         strokes.add(points);
         plan.clear();
         for (int i = 0; i < strokes.size(); i++) {
@@ -84,19 +95,28 @@ public final class TicksModelTest {
             flat[2 * i] = plan.get(i)[0];
             flat[2 * i + 1] = plan.get(i)[1];
         }
-        Check.fill(x, 0, flat);
-        Check.due("plan is taken", x.plan(0, 0) >= 0 ? 1 : 0, 1);
+        Check.due("plan is taken", tell(x, flat) >= 0 ? 1 : 0, 1);
+        changes.add(again -> tell(again, flat));
+    }
+
+    private static int tell(LightLines to, int[] flat) {
+        Check.fill(to, 0, flat);
+        return to.plan(0, 0);
     }
 
     private void changeZone(int zone) {
         if (random.nextInt(3) == 0) {
             Check.due("open", x.open(zone), zones[zone] == null ? 0 : 1);
+            changes.add(again -> again.open(zone));
             zones[zone] = null;
         } else {
             int x0 = random.nextInt(900);
             int y0 = random.nextInt(900);
-            zones[zone] = new long[] {x0, y0, x0 + random.nextInt(100), y0 + random.nextInt(100)};
-            Check.due("zone", x.zone(zone, x0, y0, (int) zones[zone][2], (int) zones[zone][3]), 1);
+            int x1 = x0 + random.nextInt(100);
+            int y1 = y0 + random.nextInt(100);
+            zones[zone] = new long[] {x0, y0, x1, y1};
+            Check.due("zone", x.zone(zone, x0, y0, x1, y1), 1);
+            changes.add(again -> again.zone(zone, x0, y0, x1, y1));
         }
     }
 
@@ -166,7 +186,19 @@ public final class TicksModelTest {
         return false;
     }
 
+    private LightLines another() {
+        questions++;
+        if (questions % QUESTIONS == 1) {
+            asked = new LightLines();
+            for (Twins.Call change : changes) {
+                change.on(asked);
+            }
+        }
+        return asked;
+    }
+
     private void compare() {
+        questions = 0;
         if (told.size() > 2000) {
             Check.due("ticks", x.ticks(), Check.FULL);
             Check.due("all", x.all(random.nextInt(6)), Check.FULL);
@@ -181,7 +213,7 @@ public final class TicksModelTest {
         for (int cx = 0; cx < 11; cx++) {
             for (int cy = 0; cy < 11; cy++) {
                 sums[4] = Math.max(sums[4], burns[cx][cy]);
-                Check.due("burn(" + cx + ", " + cy + ")", x.burn(cx, cy), burns[cx][cy]);
+                Check.due("burn(" + cx + ", " + cy + ")", another().burn(cx, cy), burns[cx][cy]);
             }
         }
         sums[5] = sums[4] > rules[5] ? 0 : 1;
@@ -199,7 +231,7 @@ public final class TicksModelTest {
         long lag = tick[2] == 1 ? way(tick, at) : 0;
         long[] due = {tick[0], tick[1], tick[2], at[0], at[1], lit, shut, lag};
         for (int what = 0; what < 8; what++) {
-            Check.due("tick(" + i + ", " + what + ")", x.tick(i, what), due[what]);
+            Check.due("tick(" + i + ", " + what + ")", another().tick(i, what), due[what]);
         }
         sums[0] += tick[2];
         sums[1] += lit;

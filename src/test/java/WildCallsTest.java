@@ -15,7 +15,7 @@ public final class WildCallsTest {
     }
 
     public static void main(String[] args) {
-        for (int seed = 0; seed < 600; seed++) {
+        for (int seed = 0; seed < 6000; seed++) {
             new WildCallsTest(seed, seed % 5).tryObject();
         }
         Check.end();
@@ -32,24 +32,40 @@ public final class WildCallsTest {
             Check.draw(x, 100, 100);
             Check.draw(x, 10, 0, 10, 10, 20, 20, 10, 0);
         }
-        for (int call = 0; call < 150; call++) {
-            String before = digest(x);
-            int trace = x.trace(0);
-            int finding = x.status();
-            int which = random.nextInt(CALLS);
-            long answer = doCall(x, which, number(), number(), number(), number(), number());
-            boolean refused = answer <= -1000001 && answer >= -1000003;
-            boolean found = answer <= -1000011 && answer >= -1000015;
-            if (refused || found) {
-                Check.due("call " + which + " answered " + answer + " and changed nothing", before.equals(digest(x)) ? 1 : 0, 1);
-                Check.due("the trace stays", x.trace(0), trace);
+        // Twice 60 calls, and one with 75 questions ahead of it and behind it, are within the 512.
+        for (int round = 0; round < 2; round++) {
+            for (int call = 0; call < 60; call++) {
+                someCall(x, random.nextInt(CALLS));
             }
-            if (refused) {
-                Check.due("call " + which + " leaves status", x.status(), finding);
-            }
-            if (found) {
-                Check.due("call " + which + " sets status", x.status(), -1000010 - answer);
-            }
+            callThatMayBeRefused(x);
+        }
+        // What is answered from here on is free; nothing may be thrown all the same.
+        for (int call = 0; call < 300; call++) {
+            someCall(x, random.nextInt(CALLS));
+        }
+    }
+
+    private long someCall(LightLines x, int which) {
+        return doCall(x, which, number(), number(), number(), number(), number());
+    }
+
+    private void callThatMayBeRefused(LightLines x) {
+        String before = digest(x);
+        int trace = x.trace(0);
+        int finding = x.status();
+        int which = random.nextInt(CALLS);
+        long answer = someCall(x, which);
+        boolean refused = answer <= -1000001 && answer >= -1000003;
+        boolean found = answer <= -1000011 && answer >= -1000015;
+        if (refused || found) {
+            Check.due("call " + which + " answered " + answer + " and changed nothing", before.equals(digest(x)) ? 1 : 0, 1);
+            Check.due("the trace stays", x.trace(0), trace);
+        }
+        if (refused) {
+            Check.due("call " + which + " leaves status", x.status(), finding);
+        }
+        if (found) {
+            Check.due("call " + which + " sets status", x.status(), -1000010 - answer);
         }
     }
 
