@@ -58,28 +58,39 @@ public final class SecondWayTest {
         return random.nextInt(n);
     }
 
-    /** Mostly one of those below n; seldom just beside them, or wild. */
+    /** Mostly one of those below n, and often the least or the greatest; seldom just beside them, or wild. */
     private int near(int n) {
-        int sort = below(24);
-        return sort == 0 ? -1 : sort == 1 ? n : sort == 2 ? WILD[below(WILD.length)] : below(Math.max(1, n));
+        switch (below(24)) {
+            case 0: return -1;
+            case 1: return n;
+            case 2: return WILD[below(WILD.length)];
+            case 3: return 0;
+            case 4: return n - 1;
+            default: return below(Math.max(1, n));
+        }
     }
 
+    /** Items beside the stroke's own are at times none that a point could have. */
     private void drawSome() {
         int n = 1 + below(8);
         int lane = below(3);
         int sheet = below(8);
+        int from = below(3);
         int most = lane == 0 ? 128 : below(3) == 0 ? 12 : 1001;
-        due("sheet", sheet, lane, 2 * n);
-        for (int i = 0; i < 2 * n; i++) {
+        due("sheet", sheet, lane, from + 2 * n + below(2));
+        for (int i = 0; i < from; i++) {
+            due("set", sheet, i, below(2) == 0 ? -1 : below(most));
+        }
+        for (int i = from; i < from + 2 * n; i++) {
             due("set", sheet, i, below(60) == 0 ? WILD[below(WILD.length)] : below(most));
         }
         if (n > 2 && below(3) == 0) {
-            due("copy", sheet, 0, sheet, 2 * n - 2, 2);
+            due("copy", sheet, from, sheet, from + 2 * n - 2, 2);
         }
         if (n > 1 && below(3) == 0) {
-            due("copy", sheet, 0, sheet, 2, 2);
+            due("copy", sheet, from, sheet, from + 2, 2);
         }
-        due("stroke", sheet, 0, n);
+        due("stroke", sheet, from, n);
     }
 
     private void tellPlan() {
@@ -168,7 +179,12 @@ public final class SecondWayTest {
     private void tellZone() {
         int x0 = near(900);
         int y0 = near(900);
-        due("zone", near(4), x0, y0, below(20) == 0 ? near(1001) : x0 + below(400), below(20) == 0 ? near(1001) : y0 + below(400));
+        due("zone", near(4), x0, y0, farRim(x0), farRim(y0));
+    }
+
+    private int farRim(int near) {
+        int sort = below(16);
+        return sort == 0 ? near(1001) : sort == 1 ? 1000 : sort == 2 ? near : near + below(400);
     }
 
     /** Some whole bytes, or as many as fill the tape, so that it is full at times. */
